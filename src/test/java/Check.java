@@ -1,0 +1,67 @@
+/** Counts answers that are not the ones that are due, and helps tests to type and to read texts. */
+final class Check {
+    private static int checked = 0;
+    private static int wrong = 0;
+
+    private Check() {
+    }
+
+    static void due(String call, long got, long want) {
+        checked++;
+        if (got != want) {
+            fail(call + " answered " + got + ", due is " + want);
+        }
+    }
+
+    /** Floats and doubles are due to the last bit. */
+    static void dueExactly(String call, double got, double want) {
+        checked++;
+        if (Double.doubleToLongBits(got) != Double.doubleToLongBits(want)) {
+            fail(call + " answered " + got + ", due is " + want);
+        }
+    }
+
+    static void dueText(String call, String got, String want) {
+        checked++;
+        if (!got.equals(want)) {
+            fail(call + " answered \"" + got + "\", due is \"" + want + "\"");
+        }
+    }
+
+    static void fail(String what) {
+        wrong++;
+        if (wrong <= 40) {
+            System.out.println(what);
+        }
+    }
+
+    static int wrongSoFar() {
+        return wrong;
+    }
+
+    static void end() {
+        System.out.println(checked + " answers looked at, " + wrong + " not as due");
+        if (wrong != 0 || checked == 0) {
+            System.exit(1);
+        }
+    }
+
+    static void type(CartArguments x, String text) {
+        for (int index = 0; index < text.length(); index++) {
+            x.append(text.charAt(index));
+        }
+    }
+
+    static int say(CartArguments x, String text) {
+        type(x, text);
+        return x.read();
+    }
+
+    static String line(CartArguments x) {
+        StringBuilder line = new StringBuilder();
+        for (int index = 0; x.written(index) != CartArguments.NONE; index++) {
+            line.append((char) x.written(index));
+        }
+        return line.toString();
+    }
+}
