@@ -22,6 +22,7 @@ public final class PromiseTest {
         swap();
         trip();
         tripsUntilWornOut();
+        wornOutAtOne();
         grease();
         read();
         readEachCommand();
@@ -393,6 +394,30 @@ public final class PromiseTest {
         Check.due("trip still worn out behind", x.trip(0, 0), REFUSED);
         dueReason(x, "trip still worn out behind", 10, 1);
         Check.due("worn out wears not", x.wear(0, false) < 1.0f ? 1 : 0, 1);
+    }
+
+    /** Eight trips of an eighth each make the wear of the front axle just 1, which is worn out. */
+    private static void wornOutAtOne() {
+        CartArguments x = new CartArguments();
+        x.premise(8);
+        x.premise(1);
+        x.conclusion(9);
+        x.cart(6);
+        x.road(18, 5, 0);
+        x.load(0, 0, 0);
+        x.load(1, 0, 5);
+        x.load(2, 0, 6);
+        for (int left = 8; left > 0; left--) {
+            Check.due("could until just 1", x.could(0, 0), left);
+            Check.due("worn out before 1", x.account(8), 0);
+            Check.due("trip until just 1", x.trip(0, 0), 1);
+        }
+        Check.dueExactly("wear of just 1", x.wear(0, false), 1.0f);
+        Check.due("worn out at 1", x.account(8), 1);
+        Check.due("could at 1", x.could(0, 0), 0);
+        Check.due("trip at 1", x.trip(0, 0), REFUSED);
+        dueReason(x, "trip at 1", 10, 0);
+        Check.due("grease at 1", x.grease(0), 1);
     }
 
     private static void grease() {
