@@ -649,6 +649,8 @@ public final class CartArguments {
 
     /** What the axles of a cart bear. */
     private static final class Scale {
+        private static final int TOP_ARM = 5;
+
         private final Yard yard;
 
         Scale(Yard yard) {
@@ -659,18 +661,14 @@ public final class CartArguments {
             int sum = 0;
             for (int thing = 0; thing < yard.things; thing++) {
                 if (yard.cartsUnder[thing] == cart) {
-                    sum += tenthsOfThing(thing, isRear);
+                    int arm = TOP_ARM;
+                    if (yard.kinds[thing] == PREMISE_KIND) {
+                        arm = 2 * (isRear ? yard.places[thing] : LAST_PLACE - yard.places[thing]);
+                    }
+                    sum += yard.weights[thing] * arm;
                 }
             }
             return sum;
-        }
-
-        private int tenthsOfThing(int thing, boolean isRear) {
-            if (yard.kinds[thing] == CONCLUSION_KIND) {
-                return yard.weights[thing] * 5;
-            }
-            int place = yard.places[thing];
-            return yard.weights[thing] * 2 * (isRear ? place : LAST_PLACE - place);
         }
 
         int tenthsByOther(int cart, boolean isRear) {
@@ -681,12 +679,12 @@ public final class CartArguments {
             return (float) tenthsByThings(cart, isRear) / 10.0f;
         }
 
-        boolean isCreaking(int cart, boolean isRear) {
-            return axleLoad(cart, isRear) > (float) yard.strengths[cart];
+        private boolean isTooMuch(int cart, float load) {
+            return load > (float) yard.strengths[cart];
         }
 
         int creakingAxles(int cart) {
-            return (isCreaking(cart, false) ? 1 : 0) + (isCreaking(cart, true) ? 1 : 0);
+            return (isTooMuch(cart, axleLoad(cart, false)) ? 1 : 0) + (isTooMuch(cart, axleLoad(cart, true)) ? 1 : 0);
         }
 
         int allCreakingAxles() {
@@ -706,8 +704,9 @@ public final class CartArguments {
         }
 
         float wearOfTrip(int cart, int road, boolean isRear) {
-            float added = axleLoad(cart, isRear) * (float) yard.miles[road] * 0.001f;
-            return isCreaking(cart, isRear) ? added * 2.0f : added;
+            float load = axleLoad(cart, isRear);
+            float added = load * (float) yard.miles[road] * 0.001f;
+            return isTooMuch(cart, load) ? added * 2.0f : added;
         }
     }
 
@@ -884,16 +883,12 @@ public final class CartArguments {
                 return reasons.refuse(WORN_OUT, yard.isWornOut(cart, false) ? 0 : 1);
             }
             yard.tollsPaid = yard.tollsPaid + scale.tollOf(cart, road);
-            wearAxle(cart, road, false);
-            wearAxle(cart, road, true);
+            yard.setWear(cart, false, yard.wearOf(cart, false) + scale.wearOfTrip(cart, road, false));
+            yard.setWear(cart, true, yard.wearOf(cart, true) + scale.wearOfTrip(cart, road, true));
             yard.cartTrips[cart]++;
             yard.roadTrips[road]++;
             yard.milesMade += yard.miles[road];
             return scale.creakingAxles(cart);
-        }
-
-        private void wearAxle(int cart, int road, boolean isRear) {
-            yard.setWear(cart, isRear, yard.wearOf(cart, isRear) + scale.wearOfTrip(cart, road, isRear));
         }
 
         int greaseAxles(int cart) {
