@@ -2,8 +2,14 @@
 final class Check {
     private static int checked = 0;
     private static int wrong = 0;
+    private static String about = "";
 
     private Check() {
+    }
+
+    /** What is told about the checks that follow, if one of them fails. */
+    static void about(String what) {
+        about = what;
     }
 
     static void due(String call, long got, long want) {
@@ -31,7 +37,7 @@ final class Check {
     static void fail(String what) {
         wrong++;
         if (wrong <= 40) {
-            System.out.println(what);
+            System.out.println(about.isEmpty() ? what : what + "  [" + about + "]");
         }
     }
 
@@ -59,8 +65,8 @@ final class Check {
 
     static String line(CartArguments x) {
         StringBuilder line = new StringBuilder();
-        for (int index = 0; x.written(index) != CartArguments.NONE; index++) {
-            line.append((char) x.written(index));
+        for (int code = x.written(0); code != CartArguments.NONE; code = x.written(line.length())) {
+            line.append((char) code);
         }
         return line.toString();
     }
