@@ -269,6 +269,7 @@ final class AnswerEdges {
         Check.due("none again", x.bestAgain(2), 0);
         Check.due("one again", Built.cart(9, 9).bestAgain(0), 18);
         alikeByBothWays();
+        alikeOneAfterTheOther();
         Sentences.of(26, "Returns the imbalance; NONE if there is no such cart.");
         dueNoCart("bestAgain", cart -> x.bestAgain(cart), 3);
     }
@@ -286,6 +287,25 @@ final class AnswerEdges {
                 int least = leastOf(weights, 0, new boolean[6], 0);
                 Check.due(call, x.best(0), least);
                 Check.due(call + " again", x.bestAgain(0), least);
+            }
+        }
+    }
+
+    /** Carts with heavy premises one after the other, as what one leaves behind could be taken for the next. */
+    private static void alikeOneAfterTheOther() {
+        for (int one = 1; one <= 9; one++) {
+            for (int other = 4; other <= 9; other++) {
+                int[] weights = {9, 9, 9, 9, 9, one};
+                int[] others = {9, 9, 9, 9, 9, other};
+                CartArguments x = Built.cart(9, weights);
+                Built.addCart(x, 9, others);
+                String call = "best with " + one + " and " + other;
+                int least = leastOf(weights, 0, new boolean[6], 0);
+                int leastOther = leastOf(others, 0, new boolean[6], 0);
+                Check.due(call, x.bestAgain(0), least);
+                Check.due(call + ", the other", x.bestAgain(1), leastOther);
+                Check.due(call + ", once more", x.bestAgain(0), least);
+                Check.due(call + ", by all ways", x.best(0) * 100 + x.best(1), least * 100 + leastOther);
             }
         }
     }
@@ -401,6 +421,12 @@ final class AnswerEdges {
         Check.due("by the miles", x.cheapest(0), 3);
         x.road(10, 8, 4);
         Check.due("the lowest one", x.cheapest(0), 3);
+        x.undo();
+        x.road(99, 1, 5);
+        Check.due("a greater toll over fewer miles", x.cheapest(0), 3);
+        x.undo();
+        x.road(99, 9, 9);
+        Check.due("a greater toll", x.cheapest(0), 3);
         x.undo();
         x.road(10, 9, 0);
         Check.due("no toll", x.cheapest(0), 4);
@@ -691,6 +717,27 @@ final class AnswerEdges {
         Check.due("none again", y.save(), 0);
     }
 
+    /** What was saved is full, and all of it has become another thing, cart or road. */
+    private static void restoreOfOthers() {
+        CartArguments x = Built.brimful();
+        String saved = Built.things(x);
+        x.save();
+        x.clear();
+        for (int number = 0; number < 12; number++) {
+            Check.due("another thing", number % 3 == 2 ? x.premise(9) : x.conclusion(50), number);
+        }
+        for (int number = 0; number < 4; number++) {
+            Check.due("another cart", x.cart(60 - number), number);
+        }
+        for (int number = 0; number < 5; number++) {
+            Check.due("another road", x.road(99 - number, 1, 1), number);
+        }
+        x.load(11, 0, 0);
+        x.load(2, 3, 4);
+        Check.due("restore of others", x.restore(), 12);
+        Check.dueText("others as saved", Built.things(x), saved);
+    }
+
     private static void restore() {
         Sentences.of(41, "Restores what was saved, which stays saved.");
         CartArguments x = Built.worn();
@@ -712,6 +759,7 @@ final class AnswerEdges {
             Check.due("restore", x.restore(), 2);
             Check.dueText("as saved", Built.things(x), saved);
         }
+        restoreOfOthers();
         Sentences.of(41, "Nothing can be undone then.");
         Check.due("no changes", x.account(12), 0);
         Check.due("undo", x.undo(), NOTHING);

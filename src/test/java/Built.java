@@ -48,6 +48,21 @@ final class Built {
         return x;
     }
 
+    /** Crowded, with all things on carts, and trips of each cart and over each road. */
+    static CartArguments brimful() {
+        CartArguments x = new CartArguments();
+        for (int cart = 0; cart < 4; cart++) {
+            addCart(x, 3 + cart, 0, cart + 1, 0, 0, 0, 8 - cart, 2 * cart + 1);
+        }
+        for (int road = 0; road < 5; road++) {
+            Check.due("built", x.road(20 + road, 9 - road, 2 * road), road);
+        }
+        for (int trips = 0; trips < 10; trips++) {
+            Check.due("built", x.trip(trips % 4, trips % 5) >= 0 ? 1 : 0, 1);
+        }
+        return x;
+    }
+
     /** Cart 0 made a trip; cart 1 has a premise alone; things 4 and 5 are loose; something is saved. */
     static CartArguments rich() {
         CartArguments x = cart(6, 4, 0, 0, 0, 0, 9, 10);

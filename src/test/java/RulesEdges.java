@@ -187,6 +187,15 @@ final class RulesEdges {
             Check.due(text, Check.say(x, text), REFUSED);
             Check.dueText(text + " reasons", Built.reasons(x), behind.get(text));
         }
+        String[] adding = {"premise 1", "conclusion 1", "cart 1", "road 1 1 1"};
+        String[] full = {"12 0 1 12", "12 0 1 12", "12 0 1 4", "12 0 1 5"};
+        String[] bad = {"premise 0", "conclusion 55", "cart 0", "road 1 0 1"};
+        CartArguments z = Built.crowded();
+        for (int index = 0; index < adding.length; index++) {
+            Check.due(adding[index], Check.say(z, adding[index]), REFUSED);
+            Check.dueText(adding[index] + " reasons", Built.reasons(z), full[index]);
+            dueReason(z, bad[index], Check.say(z, bad[index]), 13, 0);
+        }
         CartArguments y = Built.worn();
         Check.due("trip 0 0", Check.say(y, "grease 0;trip 0 0"), 2);
         y.undo();
@@ -241,6 +250,7 @@ final class RulesEdges {
 
     private static void latestEight() {
         of("The latest 8 can be undone.");
+        undoOfTheLast();
         CartArguments x = Built.cart(9, 1);
         for (int number = 3; number < 30; number++) {
             Check.due("changes after " + number, x.account(12), Math.min(8, number));
@@ -272,6 +282,24 @@ final class RulesEdges {
         Check.due("all undone", z.account(0), 0);
         z.premise(2);
         Check.due("one again", z.account(12), 1);
+    }
+
+    /** The last of all things, carts and roads. */
+    private static void undoOfTheLast() {
+        CartArguments x = Built.brimful();
+        CartArguments y = Built.brimful();
+        x.trip(3, 4);
+        x.trip(2, 4);
+        x.grease(3);
+        x.swap(3, 1, 3);
+        x.unload(11);
+        x.unload(10);
+        x.unload(9);
+        x.load(10, 3, 0);
+        for (int left = 7; left >= 0; left--) {
+            Check.due("undo of the last", x.undo(), left);
+        }
+        Check.dueText("all as before", Built.things(x), Built.things(y));
     }
 
     private static void neitherUndoneNorSaved() {
@@ -549,6 +577,7 @@ final class RulesEdges {
         Check.due("greased", x.could(0, 0), 5);
         x.swap(0, 0, 2);
         Check.due("swapped, no axle creaks", x.could(0, 0), 12);
+        couldWithEachAxle();
         x.unload(1);
         Check.due("without its conclusion", x.could(0, 0), 0);
         x.load(1, 0, 6);
@@ -557,6 +586,21 @@ final class RulesEdges {
         Check.due("over the limit", x.could(0, 0), 0);
         Check.due("nothing was made", x.account(9), 4);
         Check.due("the reason stays", x.reason(0, false), NOTHING);
+    }
+
+    /** An axle that is nearly worn out allows one trip, however little it bears. */
+    private static void couldWithEachAxle() {
+        for (int round = 0; round < 2; round++) {
+            CartArguments x = round == 0 ? Built.cart(10, 9, 0, 0, 0, 0, 0, 9) : Built.cart(10, 0, 0, 0, 0, 0, 9, 9);
+            x.road(18, 9, 3);
+            for (int trips = 0; trips < 4; trips++) {
+                x.trip(0, 0);
+            }
+            x.swap(0, 0, 5);
+            Check.due("the other axle bears more", x.could(0, 0), 1);
+            Check.due("one trip", x.trip(0, 0), 1);
+            dueReason(x, "no second one", x.trip(0, 0), 10, round);
+        }
     }
 
     private static void cheapestOfWornOut() {

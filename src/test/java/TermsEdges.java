@@ -286,11 +286,32 @@ final class TermsEdges {
             Check.dueExactly("of cart 1", x.wear(1, round == 1), 0.0f);
             Check.due("wear of cart 0", x.wear(0, round == 1) > 0.0f ? 1 : 0, 1);
         }
+        wearOfEach();
         x.clear();
         x.cart(9);
         Check.dueExactly("after clear, in front", x.wear(0, false), 0.0f);
         Check.dueExactly("after clear, behind", x.wear(0, true), 0.0f);
         Check.due("grease of a new cart", x.grease(0), REFUSED);
+    }
+
+    /** The carts make trips one after the other, and no axle wears another one. */
+    private static void wearOfEach() {
+        CartArguments x = new CartArguments();
+        x.road(99, 9, 0);
+        for (int cart = 0; cart < 4; cart++) {
+            Built.addCart(x, 60, cart + 1, 0, 0, 0, 0, 0, 1);
+        }
+        for (int trips = 1; trips <= 4; trips++) {
+            x.trip(4 - trips, 0);
+            for (int cart = 0; cart < 4; cart++) {
+                float front = cart >= 4 - trips ? (10 * (cart + 1) + 5) / 10f * 9.0f * 0.001f : 0.0f;
+                float rear = cart >= 4 - trips ? 0.5f * 9.0f * 0.001f : 0.0f;
+                Check.dueExactly("wear in front of cart " + cart, x.wear(cart, false), front);
+                Check.dueExactly("wear behind of cart " + cart, x.wear(cart, true), rear);
+            }
+        }
+        Check.due("grease of cart 2", x.grease(2), 0);
+        Check.dueExactly("the least wear, of cart 3", x.wear(3, true), 0.5f * 9.0f * 0.001f);
     }
 
     /** A hundred trips by 0.01 each leave the wear a little below 1, as floats add up. */
@@ -308,17 +329,24 @@ final class TermsEdges {
         Check.due("above 1 is worn out", x.account(8), 2);
         dueReason(x, "above 1 makes no trip", x.trip(0, 0), 10, 0);
         Check.due("grease above 1", x.grease(0), 2);
-        CartArguments y = Built.cart(6, 8, 0, 0, 0, 0, 1, 9);
-        y.road(18, 5, 0);
+        justOne(0, 8, 0, 0, 0, 0, 1, 9);
+        justOne(1, 1, 0, 0, 0, 0, 8, 9);
+    }
+
+    /** Eight trips of an eighth each. */
+    private static void justOne(int axle, int... weights) {
+        CartArguments x = Built.cart(6, weights);
+        x.road(18, 5, 0);
         for (int trips = 0; trips < 8; trips++) {
-            Check.due("not worn out after " + trips, y.account(8), 0);
-            Check.due("trip by an eighth", y.trip(0, 0), 1);
+            Check.due("not worn out after " + trips, x.account(8), 0);
+            Check.due("could until just 1", x.could(0, 0), 8 - trips);
+            Check.due("trip by an eighth", x.trip(0, 0), 1);
         }
-        Check.dueExactly("just 1", y.wear(0, false), 1.0f);
-        Check.due("just 1 is worn out", y.account(8), 1);
-        Check.due("just 1 could not", y.could(0, 0), 0);
-        dueReason(y, "just 1 makes no trip", y.trip(0, 0), 10, 0);
-        Check.due("grease of just 1", y.grease(0), 1);
+        Check.dueExactly("just 1", x.wear(0, axle == 1), 1.0f);
+        Check.due("just 1 is worn out", x.account(8), 1);
+        Check.due("just 1 could not", x.could(0, 0), 0);
+        dueReason(x, "just 1 makes no trip", x.trip(0, 0), 10, axle);
+        Check.due("grease of just 1", x.grease(0), 1);
     }
 
     private static void imbalance() {
