@@ -159,12 +159,11 @@ public final class FaceTest {
             return;
         }
         com.sun.management.ThreadMXBean counter = (com.sun.management.ThreadMXBean) bean;
-        long self = Thread.currentThread().getId();
         someCalls(new CartArguments());
         CartArguments x = new CartArguments();
-        long before = counter.getThreadAllocatedBytes(self);
+        long before = counter.getCurrentThreadAllocatedBytes();
         someCalls(x);
-        long made = counter.getThreadAllocatedBytes(self) - before;
+        long made = counter.getCurrentThreadAllocatedBytes() - before;
         Check.due("bytes that the calls made, " + made + ", are few", made < 20000 ? 1 : 0, 1);
     }
 
